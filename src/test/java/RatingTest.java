@@ -34,6 +34,21 @@ public final class RatingTest {
         g.lay(0, 0, 3);
         g.plant(2, 3, 11);
         CHECK.dueDouble("from a seat", g.prospect(0, 0), 4.0);
+        tenFeaturesAndOneAfterThem();
+    }
+
+    private static void tenFeaturesAndOneAfterThem() {
+        ViewGarden g = new ViewGarden();
+        g.reset(16, 12);
+        double sum = 0.0;
+        for (int i = 0; i < 10; i++) {
+            g.addFeature(i + 1, i, 3 * i, 9 - i / 2);
+            sum += (double) (3 * i * (9 - i / 2)) / ((i + 1) * (i + 1) + i * i);
+        }
+        CHECK.dueDouble("ten features", g.prospect(0, 0), sum);
+        g.reset(16, 12);
+        g.addFeature(2, 0, 8, 1);
+        CHECK.dueDouble("one after a reset", g.prospect(0, 0), 2.0);
     }
 
     /** The sum is taken by ascending numbers: in another order it would be another double. */

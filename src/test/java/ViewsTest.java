@@ -11,6 +11,7 @@ public final class ViewsTest {
         slanting();
         throughCorners();
         allEightDirections();
+        oneColumnOrRowAside();
         seatedEye();
         featuresDoNotBlock();
         promise10Seen();
@@ -127,6 +128,27 @@ public final class ViewsTest {
             for (int i = 1; i < 4; i++) {
                 CHECK.due(to + "hedge " + i, lowered(g, 4, 4, 4 + i * way[0], 4 + i * way[1]), 15 + 2 * i);
                 CHECK.due(to + "behind " + i, lowered(g, 4, 4, 4 - i * way[0], 4 - i * way[1]), 40);
+            }
+        }
+    }
+
+    /** A line by one column, or one row, and three of the other passes a corner in its middle. */
+    private static void oneColumnOrRowAside() {
+        for (int aside : new int[] {-1, 1}) {
+            for (int on : new int[] {-1, 1}) {
+                ViewGarden g = new ViewGarden();
+                g.addFeature(4 + aside, 4 + 3 * on, 40, 1);
+                String to = "aside " + aside + ", on " + on + ": ";
+                // 16 + 24 * t at t = 1/6 and 1/2.
+                CHECK.due(to + "first", lowered(g, 4, 4, 4, 4 + on), 20);
+                CHECK.due(to + "second", lowered(g, 4, 4, 4 + aside, 4 + 2 * on), 28);
+                CHECK.due(to + "beside", lowered(g, 4, 4, 4 + aside, 4 + on), 40);
+                CHECK.due(to + "on the other side", lowered(g, 4, 4, 4 - aside, 4 + 2 * on), 40);
+                g.reset(8, 8);
+                g.addFeature(4 + 3 * on, 4 + aside, 40, 1);
+                CHECK.due(to + "first, across", lowered(g, 4, 4, 4 + on, 4), 20);
+                CHECK.due(to + "second, across", lowered(g, 4, 4, 4 + 2 * on, 4 + aside), 28);
+                CHECK.due(to + "beside, across", lowered(g, 4, 4, 4 + on, 4 + aside), 40);
             }
         }
     }

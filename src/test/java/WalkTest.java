@@ -179,6 +179,8 @@ public final class WalkTest {
         g.walkTo(0, 1);
         g.walkTo(0, 2);
         CHECK.due("appears(0) at the start", g.appears(0), 0);
+        CHECK.due("surprises(0) at the start", g.surprises(0), 3);
+        CHECK.due("surprises(1) has none of them", g.surprises(1), 0);
         g.plant(0, 0, 1);
         CHECK.due("a hedge shows nothing", g.appears(0), 1);
         CHECK.due("surprises there", g.surprises(0), 0);

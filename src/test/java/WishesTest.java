@@ -15,6 +15,7 @@ public final class WishesTest {
         promise23Errors();
         promise24Spoiled();
         promise24CellsThatWouldBecomeLawn();
+        promise24AllFeatures();
         CHECK.end();
     }
 
@@ -212,5 +213,32 @@ public final class WishesTest {
         CHECK.due("the next place does", g.spoiled(), 1);
         g.addFeature(7, 0, 1, 1);
         CHECK.due("no place any more", g.spoiled(), 0);
+    }
+
+    private static void promise24AllFeatures() {
+        ViewGarden g = new ViewGarden();
+        g.reset(16, 12);
+        for (int i = 0; i < 10; i++) {
+            g.addFeature(15, i + 1, 16, 1);
+            g.plant(1, i + 1, 17);
+            g.plant(0, i + 1, 17);
+        }
+        g.plant(1, 0, 17);
+        g.walkTo(0, 0);
+        for (int i = 0; i < 10; i++) {
+            CHECK.due("behind the wall, appears(" + i + ")", g.appears(i), -7);
+        }
+        g.wish(0, 0, 0);
+        // The lines to rows 1 to 5 leave column 1 in row 0, the others in row 1.
+        CHECK.due("five appear by one opening", g.spoiled(), 5);
+        g.wish(0, 0, 9);
+        CHECK.due("all ten appear by two", g.spoiled(), 10);
+        g.reset(16, 12);
+        CHECK.due("nothing of them is left", g.spoiled(), 0);
+        g.addFeature(15, 1, 16, 1);
+        g.plant(1, 0, 17);
+        g.walkTo(0, 0);
+        g.wish(0, 0, 0);
+        CHECK.due("one feature alone after the reset", g.spoiled(), 1);
     }
 }
