@@ -15,6 +15,7 @@ public final class WalkEdgesTest {
         aCellThatIsNoPlaceAnyMoreShowsNothing();
         aCellOfTheWalkChangesItsEye();
         aClippedCellOfTheWalkShowsAgain();
+        theWalkGoesOnFromACellThatIsNoPlaceAnyMore();
         aFeatureAppearsAtTheFirstPlace();
         itAppearsAtTheLastOf40();
         aFeatureAddedLaterAppearsToo();
@@ -213,6 +214,28 @@ public final class WalkEdgesTest {
         CHECK.due("clip it", g.clip(0, 0, 0), 3);
         CHECK.due("a lawn", g.appears(0), 0);
         CHECK.due("surprises", g.surprises(0), 1);
+    }
+
+    /** "Cells of the walk can be changed later": of the last one only its neighbours are asked for. */
+    private static void theWalkGoesOnFromACellThatIsNoPlaceAnyMore() {
+        for (boolean hedge : new boolean[] {true, false}) {
+            ViewGarden g = walkPastAStatue();
+            String what = hedge ? "a hedge" : "a feature";
+            if (hedge) {
+                g.plant(2, 0, 40);
+            } else {
+                g.addFeature(2, 0, 60, 9);
+            }
+            CHECK.due("back into " + what, g.walkTo(2, 0), -3);
+            CHECK.due("from " + what + " to a cell that is no neighbour", g.walkTo(4, 0), -6);
+            CHECK.due("from " + what + " by a corner", g.walkTo(3, 1), -6);
+            CHECK.due("from " + what + " to a neighbour", g.walkTo(3, 0), 4);
+            CHECK.due("back over " + what, g.walkTo(2, 0), -3);
+            CHECK.due("back beyond " + what, g.walkTo(1, 0), -6);
+            CHECK.due("take the step back", g.walkBack(1), 3);
+            CHECK.due("from " + what + " another way", g.walkTo(2, 1), 4);
+            CHECK.due("places with " + what, g.count(2), 4);
+        }
     }
 
     // ---- what appears
